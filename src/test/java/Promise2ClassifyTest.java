@@ -1,31 +1,221 @@
 /** Promise 2: classify decides the class, counts it up to 32767, and answers 1 << k. */
 public final class Promise2ClassifyTest {
-    /** One pattern of each class, by class number. */
-    private static final int[] PATTERN_OF = {
-        0xFF800000, 0xBF800000, 0x80000001, 0x80000000, 0x00000000,
-        0x00000001, 0x3F800000, 0x7F800000, 0x7F800001, 0x7FC00000
+    private static final int SIGN = 0x80000000;
+    private static final int[] SIGNS = {0, SIGN};
+
+    /** The least and the greatest pattern of each stretch of patterns, and the neighbours of the named ones. */
+    private static final int[] EDGES = {
+        0, 1, 2, 0x003FFFFF, 0x00400000, 0x007FFFFE, 0x007FFFFF, 0x00800000, 0x00800001, 0x3F7FFFFF, 0x3F800000,
+        0x7F000000, 0x7F7FFFFE, 0x7F7FFFFF, 0x7F800000, 0x7F800001, 0x7FBFFFFF, 0x7FC00000, 0x7FC00001,
+        0x7FFFFFFE, 0x7FFFFFFF
     };
 
     public static void main(String[] args) {
-        examplesOfTheDocument();
-        edgesOfEachClass();
-        everySignAndExponent();
-        onlyTheTallyOfTheClassGrows();
-        aFullTallyStays();
-        countingFromZeroStopsAtTheGreatest();
+        Checks.sentence("`int classify(int bits)` takes any `int` as a binary32 bit pattern, decides its class k, "
+            + "records it, and answers `1 << k`.", Promise2ClassifyTest::everySignAndExponent);
+        Checks.sentence("`e` is the value of bits 23 to 30 (an unsigned value from 0 to 255)",
+            Promise2ClassifyTest::everyExponentIsUnsigned);
+        Checks.sentence("`f` is the value of bits 0 to 22 (an unsigned value from 0 to 8388607)",
+            Promise2ClassifyTest::everyBitOfTheFractionCounts);
+        Checks.sentence("`neg` means bit 31 is set, that is, `bits` is a negative `int`.",
+            Promise2ClassifyTest::theSignMirrorsTheClass);
+        Checks.sentence("`e == 255` and `f == 0`: k is 0 if `neg`, else 7 (infinity)",
+            Promise2ClassifyTest::infinities);
+        Checks.sentence("`e == 255` and `f != 0`: k is 9 if bit 22 is set (quiet NaN), else 8 (signalling NaN), "
+            + "whatever the sign", Promise2ClassifyTest::notNumbers);
+        Checks.sentence("`e == 0` and `f == 0`: k is 3 if `neg`, else 4 (zero)", Promise2ClassifyTest::zeros);
+        Checks.sentence("`e == 0` and `f != 0`: k is 2 if `neg`, else 5 (subnormal)",
+            Promise2ClassifyTest::subnormals);
+        Checks.sentence("otherwise (`e` from 1 to 254): k is 1 if `neg`, else 6 (normal)",
+            Promise2ClassifyTest::normals);
+        Checks.sentence("Every `int` value, including `0`, `-1`, `Integer.MIN_VALUE` and `Integer.MAX_VALUE`, falls "
+            + "into exactly one of these cases, so every call has a class.", Promise2ClassifyTest::namedInts);
+        Checks.sentence("What changes: tally k grows by one", Promise2ClassifyTest::theTallyGrowsByOne);
+        Checks.sentence("unless it already is 32767, in which case it stays 32767.",
+            Promise2ClassifyTest::aFullTallyStays);
+        Checks.sentence("No other tally changes.", Promise2ClassifyTest::noOtherTallyChanges);
+        Checks.sentence("What is answered: `1 << k`, which is one of 1, 2, 4, 8, 16, 32, 64, 128, 256, 512.",
+            Promise2ClassifyTest::theTenAnswers);
+        Checks.sentence("The answer depends only on `bits`", Promise2ClassifyTest::theAnswerIsTheSameInEveryState);
+        Checks.sentence("it is the same whether or not tally k was already at 32767.",
+            Promise2ClassifyTest::theAnswerIsTheSameWhenFull);
+        Checks.sentence("Some examples (written as hexadecimal `int` values)", Promise2ClassifyTest::examples);
+        Checks.sentence("`classify` never throws.", Promise2ClassifyTest::classifyDoesNotThrow);
         Checks.end();
     }
 
-    private static void classDue(int bits, int k) {
-        FpClassify census = new FpClassify();
-        String call = "classify(0x" + Integer.toHexString(bits) + ")";
-        Checks.due(call, census.classify(bits), 1L << k);
-        int[] want = new int[Checks.CLASSES];
-        want[k] = 1;
-        Checks.talliesDue("after " + call, census, want);
+    private static String call(int bits) {
+        return "classify(0x" + Integer.toHexString(bits) + ")";
     }
 
-    private static void examplesOfTheDocument() {
+    /** On a fresh census, so that what is counted shows as well as what is answered. */
+    private static void classDue(int bits, int k) {
+        FpClassify census = new FpClassify();
+        Checks.due(call(bits), census.classify(bits), 1L << k);
+        int[] want = Checks.allAt(0);
+        want[k] = 1;
+        Checks.talliesDue("after " + call(bits), census, want);
+    }
+
+    private static void everySignAndExponent() {
+        int[] fractions = {0, 1, 0x3FFFFF, 0x400000, 0x400001, 0x555555, 0x7FFFFF};
+        for (int top = 0; top < 512; top++) {
+            for (int fraction : fractions) {
+                int bits = top << 23 | fraction;
+                classDue(bits, ClassByOrder.of(bits));
+            }
+        }
+    }
+
+    private static void everyExponentIsUnsigned() {
+        for (int e = 0; e <= 255; e++) {
+            classDue(e << 23, e == 0 ? 4 : e == 255 ? 7 : 6);
+            classDue(e << 23 | 1, e == 0 ? 5 : e == 255 ? 8 : 6);
+        }
+    }
+
+    private static void everyBitOfTheFractionCounts() {
+        for (int bit = 0; bit <= 22; bit++) {
+            classDue(1 << bit, 5);
+            classDue(0x7F800000 | 1 << bit, bit == 22 ? 9 : 8);
+        }
+        classDue(8388607, 5);
+        classDue(8388608, 6);
+        classDue(0x7F800000 | 8388607, 9);
+    }
+
+    private static void theSignMirrorsTheClass() {
+        int[] magnitudes = {0, 1, 0x007FFFFF, 0x00800000, 0x3F800000, 0x7F7FFFFF, 0x7F800000};
+        int[] positive = {4, 5, 5, 6, 6, 6, 7};
+        int[] negative = {3, 2, 2, 1, 1, 1, 0};
+        for (int i = 0; i < magnitudes.length; i++) {
+            classDue(magnitudes[i], positive[i]);
+            classDue(magnitudes[i] | SIGN, negative[i]);
+            classDue(magnitudes[i] + Integer.MIN_VALUE, negative[i]);
+        }
+    }
+
+    private static void infinities() {
+        classDue(0x7F800000, 7);
+        classDue(0xFF800000, 0);
+    }
+
+    private static void notNumbers() {
+        for (int sign : SIGNS) {
+            classDue(sign | 0x7F800001, 8);
+            classDue(sign | 0x7FA00000, 8);
+            classDue(sign | 0x7FBFFFFF, 8);
+            classDue(sign | 0x7FC00000, 9);
+            classDue(sign | 0x7FC00001, 9);
+            classDue(sign | 0x7FFFFFFF, 9);
+        }
+    }
+
+    private static void zeros() {
+        classDue(0, 4);
+        classDue(SIGN, 3);
+    }
+
+    private static void subnormals() {
+        int[] fractions = {1, 2, 0x3FFFFF, 0x400000, 0x7FFFFE, 0x7FFFFF};
+        for (int f : fractions) {
+            classDue(f, 5);
+            classDue(SIGN | f, 2);
+        }
+    }
+
+    private static void normals() {
+        int[] fractions = {0, 1, 0x400000, 0x7FFFFF};
+        for (int e = 1; e <= 254; e++) {
+            for (int f : fractions) {
+                classDue(e << 23 | f, 6);
+                classDue(SIGN | e << 23 | f, 1);
+            }
+        }
+    }
+
+    /** The named values; EveryIntTest goes through all the others too. */
+    private static void namedInts() {
+        classDue(0, 4);
+        classDue(-1, 9);
+        classDue(Integer.MIN_VALUE, 3);
+        classDue(Integer.MAX_VALUE, 9);
+        classDue(Integer.MIN_VALUE + 1, 2);
+        classDue(Integer.MAX_VALUE - 1, 9);
+    }
+
+    private static void theTallyGrowsByOne() {
+        for (int k = 0; k < Checks.CLASSES; k++) {
+            FpClassify census = new FpClassify();
+            for (int time = 1; time <= Checks.GREATEST_TALLY; time++) {
+                census.classify(Checks.patternOf(k));
+                Checks.due("class " + k + " from 0, time " + time + ": tally", census.tally(k), time);
+            }
+        }
+    }
+
+    /** Past the point where a count of 16 bits that went on would have come round to 0 again. */
+    private static void aFullTallyStays() {
+        for (int k = 0; k < Checks.CLASSES; k++) {
+            FpClassify census = new FpClassify();
+            census.preset(k, 32766);
+            for (int time = 1; time <= 70000; time++) {
+                census.classify(Checks.patternOf(k));
+                Checks.due("class " + k + " from 32766, time " + time + ": tally", census.tally(k), 32767);
+            }
+        }
+    }
+
+    private static void noOtherTallyChanges() {
+        for (int k = 0; k < Checks.CLASSES; k++) {
+            for (int[] state : Checks.states()) {
+                FpClassify census = Checks.censusOf(state);
+                int[] want = state.clone();
+                for (int time = 1; time <= 3; time++) {
+                    census.classify(Checks.patternOf(k));
+                    want[k] = Math.min(want[k] + 1, Checks.GREATEST_TALLY);
+                    Checks.talliesDue("class " + k + " from " + state[k] + ", time " + time, census, want);
+                }
+            }
+        }
+    }
+
+    private static void theTenAnswers() {
+        int[] answers = {1, 2, 4, 8, 16, 32, 64, 128, 256, 512};
+        FpClassify census = new FpClassify();
+        for (int k = 0; k < Checks.CLASSES; k++) {
+            Checks.due(call(Checks.patternOf(k)), census.classify(Checks.patternOf(k)), answers[k]);
+        }
+    }
+
+    private static void theAnswerIsTheSameInEveryState() {
+        for (int[] state : Checks.states()) {
+            FpClassify census = Checks.censusOf(state);
+            for (int time = 1; time <= 3; time++) {
+                for (int edge : EDGES) {
+                    for (int sign : SIGNS) {
+                        int bits = sign | edge;
+                        Checks.due(call(bits) + " again", census.classify(bits), 1L << ClassByOrder.of(bits));
+                    }
+                }
+            }
+        }
+    }
+
+    private static void theAnswerIsTheSameWhenFull() {
+        for (int k = 0; k < Checks.CLASSES; k++) {
+            FpClassify census = new FpClassify();
+            int bits = Checks.patternOf(k);
+            census.preset(k, 32766);
+            Checks.due(call(bits) + " that fills its tally", census.classify(bits), 1L << k);
+            Checks.due(call(bits) + " on its full tally", census.classify(bits), 1L << k);
+            Checks.due(call(bits) + " on its full tally again", census.classify(bits), 1L << k);
+            census.preset(k, 0);
+            Checks.due(call(bits) + " on its emptied tally", census.classify(bits), 1L << k);
+        }
+    }
+
+    private static void examples() {
         classDue(0x00000000, 4);
         classDue(0x80000000, 3);
         classDue(0x00000001, 5);
@@ -43,90 +233,14 @@ public final class Promise2ClassifyTest {
         classDue(0xFFFFFFFF, 9);
     }
 
-    private static void edgesOfEachClass() {
-        classDue(Integer.MIN_VALUE, 3);
-        classDue(Integer.MAX_VALUE, 9);
-        classDue(0x007FFFFF, 5);
-        classDue(0x00400000, 5);
-        classDue(0x807FFFFF, 2);
-        classDue(0x80400000, 2);
-        classDue(0x00800000, 6);
-        classDue(0x00800001, 6);
-        classDue(0x80800000, 1);
-        classDue(0x80800001, 1);
-        classDue(0x7F000000, 6);
-        classDue(0xFF000000, 1);
-        classDue(0xFF7FFFFF, 1);
-        classDue(0x7FBFFFFF, 8);
-        classDue(0xFFBFFFFF, 8);
-        classDue(0x7FC00001, 9);
-        classDue(0xFFC00001, 9);
-    }
-
-    private static void everySignAndExponent() {
-        for (int top = 0; top < 512; top++) {
-            checkFraction(top, 0);
-            checkFraction(top, 0x3FFFFF);
-            checkFraction(top, 0x400001);
-            checkFraction(top, 0x7FFFFF);
-            for (int bit = 0; bit < 23; bit++) {
-                checkFraction(top, 1 << bit);
-            }
-        }
-    }
-
-    private static void checkFraction(int top, int fraction) {
-        int bits = top << 23 | fraction;
-        classDue(bits, classByOrder(bits));
-    }
-
-    /** The class by the order of the magnitudes, not by fields, so that it shares no step with the program. */
-    private static int classByOrder(int bits) {
-        boolean negative = bits < 0;
-        int magnitude = bits & Integer.MAX_VALUE;
-        if (magnitude >= 0x7FC00000) {
-            return 9;
-        }
-        if (magnitude > 0x7F800000) {
-            return 8;
-        }
-        int steps = magnitude == 0 ? 0 : magnitude < 0x00800000 ? 1 : magnitude < 0x7F800000 ? 2 : 3;
-        return negative ? 3 - steps : 4 + steps;
-    }
-
-    private static void onlyTheTallyOfTheClassGrows() {
-        for (int k = 0; k < Checks.CLASSES; k++) {
-            FpClassify census = Checks.distinctCensus();
-            int[] want = Checks.distinct();
-            for (int time = 1; time <= 3; time++) {
-                Checks.due("class " + k + ", time " + time, census.classify(PATTERN_OF[k]), 1L << k);
-                want[k]++;
-                Checks.talliesDue("class " + k + ", time " + time, census, want);
-            }
-        }
-    }
-
-    private static void aFullTallyStays() {
-        for (int k = 0; k < Checks.CLASSES; k++) {
-            FpClassify census = Checks.distinctCensus();
-            int[] want = Checks.distinct();
-            census.preset(k, 32766);
-            want[k] = 32767;
-            for (int time = 1; time <= 4; time++) {
-                String when = "class " + k + " from 32766, time " + time;
-                Checks.due(when, census.classify(PATTERN_OF[k]), 1L << k);
-                Checks.talliesDue(when, census, want);
-            }
-        }
-    }
-
-    private static void countingFromZeroStopsAtTheGreatest() {
-        for (int k = 0; k < Checks.CLASSES; k++) {
-            FpClassify census = new FpClassify();
-            for (int time = 1; time <= 70000; time++) {
-                String when = "class " + k + " from 0, time " + time;
-                Checks.due(when, census.classify(PATTERN_OF[k]), 1L << k);
-                Checks.due(when + ": tally", census.tally(k), Math.min(time, Checks.GREATEST_TALLY));
+    private static void classifyDoesNotThrow() {
+        for (int[] state : Checks.states()) {
+            FpClassify census = Checks.censusOf(state);
+            for (int edge : EDGES) {
+                for (int sign : SIGNS) {
+                    int bits = sign | edge;
+                    Checks.doesNotThrow(call(bits), () -> census.classify(bits));
+                }
             }
         }
     }

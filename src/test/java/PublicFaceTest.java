@@ -14,10 +14,11 @@ public final class PublicFaceTest {
         "public int FpClassify.finite()");
 
     public static void main(String[] args) {
-        theClassIsPublicFinalAndAlone();
-        theOnlyConstructorIsPublicAndEmpty();
-        theOtherMethodsArePrivate();
-        fieldsArePrivateAndPlain();
+        Checks.sentence("public final class FpClassify", PublicFaceTest::theClassIsPublicFinalAndAlone);
+        Checks.sentence("public FpClassify()", PublicFaceTest::theOnlyConstructorIsPublicAndEmpty);
+        Checks.sentence("public int classify, public int preset, public short tally, public int finite",
+            PublicFaceTest::theOtherMethodsArePrivate);
+        Checks.sentence("The class has no public constants.", PublicFaceTest::fieldsArePrivateAndPlain);
         Checks.end();
     }
 
