@@ -3,6 +3,9 @@
  * Each method has its own plain loop: one loop over a method handed in takes many times as long.
  */
 public final class EveryIntTest {
+    /** Patterns counted before the tallies are looked at; far from 32767, so that one counted twice shows. */
+    private static final int BATCH = 16384;
+
     private static long wrong = 0;
 
     public static void main(String[] args) {
@@ -11,7 +14,8 @@ public final class EveryIntTest {
         Checks.sentence("If `c < 0` or `c > 9`: answers -1 and changes nothing, whatever `v` is.",
             EveryIntTest::presetRefusesEveryOtherClass);
         Checks.sentence("any value below 0 becomes 0 and any value above 32767 becomes 32767, while values from 0 to "
-            + "32767 are kept as they are.", EveryIntTest::presetClampsEveryValue);
+            + "32767 are kept as they are. The clamped value is stored as tally `c`, and the stored value is answered.",
+            EveryIntTest::presetClampsEveryValue);
         Checks.sentence("For any other `c`, including `Integer.MIN_VALUE` and `Integer.MAX_VALUE`, the answer is -1.",
             EveryIntTest::tallyRefusesEveryOtherClass);
         Checks.end();
@@ -37,19 +41,34 @@ public final class EveryIntTest {
         };
         int[] classes = {4, 5, 6, 7, 8, 9, 3, 2, 1, 0, 8, 9};
         FpClassify census = new FpClassify();
+        long patterns = 0;
         for (int i = 0; i < starts.length; i++) {
-            int end = i + 1 < starts.length ? starts[i + 1] - 1 : -1;
-            classifyStretch(census, starts[i], end, 1 << classes[i]);
+            long end = i + 1 < starts.length ? starts[i + 1] - 1 : -1;
+            for (long from = starts[i]; from <= end; from += BATCH) {
+                long to = Math.min(from + BATCH - 1, end);
+                classifyBatch(census, from, to, classes[i]);
+                patterns += to - from + 1;
+            }
         }
-        noneWrong("classify");
-        Checks.talliesDue("every pattern classified", census, 1, 32767, 32767, 1, 1, 32767, 32767, 1, 32767, 32767);
+        noneWrong("classify, and of tally after it");
+        Checks.due("number of patterns classified", patterns, 1L << 32);
     }
 
-    private static void classifyStretch(FpClassify census, int from, int to, int due) {
+    private static void classifyBatch(FpClassify census, long from, long to, int k) {
+        for (int c = 0; c < Checks.CLASSES; c++) {
+            census.preset(c, 0);
+        }
+        int due = 1 << k;
         for (long bits = from; bits <= to; bits++) {
             int got = census.classify((int) bits);
             if (got != due) {
                 countWrong("classify", bits, got);
+            }
+        }
+        for (int c = 0; c < Checks.CLASSES; c++) {
+            int got = census.tally(c);
+            if (got != (c == k ? to - from + 1 : 0)) {
+                countWrong("tally, after classify from " + from + " to " + to + ",", c, got);
             }
         }
     }
@@ -58,15 +77,16 @@ public final class EveryIntTest {
         FpClassify census = Checks.distinctCensus();
         presetClassStretch(census, Integer.MIN_VALUE, -1);
         presetClassStretch(census, 10, Integer.MAX_VALUE);
-        noneWrong("preset(c, 7)");
+        noneWrong("preset(c, ~c)");
         Checks.talliesDue("every other class refused", census, Checks.distinct());
     }
 
+    /** With another v for each c, since the answer is -1 whatever v is. */
     private static void presetClassStretch(FpClassify census, int from, int to) {
         for (long c = from; c <= to; c++) {
-            int got = census.preset((int) c, 7);
+            int got = census.preset((int) c, (int) ~c);
             if (got != -1) {
-                countWrong("preset(c, 7)", c, got);
+                countWrong("preset(c, ~c)", c, got);
             }
         }
     }
@@ -78,7 +98,7 @@ public final class EveryIntTest {
             presetValueStretch(census, v, v, v);
         }
         presetValueStretch(census, 32768, Integer.MAX_VALUE, 32767);
-        noneWrong("preset(4, v)");
+        noneWrong("preset(4, v), and of tally(4) after it");
         int[] want = Checks.distinct();
         want[4] = 32767;
         Checks.talliesDue("every value stored", census, want);
@@ -89,6 +109,10 @@ public final class EveryIntTest {
             int got = census.preset(4, (int) v);
             if (got != due) {
                 countWrong("preset(4, v)", v, got);
+            }
+            int stored = census.tally(4);
+            if (stored != due) {
+                countWrong("tally(4) after preset(4, v)", v, stored);
             }
         }
     }

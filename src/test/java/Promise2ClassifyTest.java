@@ -39,7 +39,7 @@ public final class Promise2ClassifyTest {
         Checks.sentence("The answer depends only on `bits`", Promise2ClassifyTest::theAnswerIsTheSameInEveryState);
         Checks.sentence("it is the same whether or not tally k was already at 32767.",
             Promise2ClassifyTest::theAnswerIsTheSameWhenFull);
-        Checks.sentence("Some examples (written as hexadecimal `int` values)", Promise2ClassifyTest::examples);
+        examples();
         Checks.sentence("`classify` never throws.", Promise2ClassifyTest::classifyDoesNotThrow);
         Checks.end();
     }
@@ -215,22 +215,33 @@ public final class Promise2ClassifyTest {
         }
     }
 
+    /** "Some examples (written as hexadecimal `int` values)", with the document's own numbers. */
     private static void examples() {
-        classDue(0x00000000, 4);
-        classDue(0x80000000, 3);
-        classDue(0x00000001, 5);
-        classDue(0x80000001, 2);
-        classDue(0x3F800000, 6);
-        classDue(0xBF800000, 1);
-        classDue(0x7F7FFFFF, 6);
-        classDue(0x7F800000, 7);
-        classDue(0xFF800000, 0);
-        classDue(0x7F800001, 8);
-        classDue(0xFF800001, 8);
-        classDue(0x7FC00000, 9);
-        classDue(0xFFC00000, 9);
-        classDue(0x7FFFFFFF, 9);
-        classDue(0xFFFFFFFF, 9);
+        Checks.sentence("`0x00000000` is class 4, answers 16", () -> exampleDue(0x00000000, 4, 16));
+        Checks.sentence("`0x80000000` is class 3, answers 8", () -> exampleDue(0x80000000, 3, 8));
+        Checks.sentence("`0x00000001` is class 5, answers 32", () -> exampleDue(0x00000001, 5, 32));
+        Checks.sentence("`0x80000001` is class 2, answers 4", () -> exampleDue(0x80000001, 2, 4));
+        Checks.sentence("`0x3F800000` is class 6, answers 64", () -> exampleDue(0x3F800000, 6, 64));
+        Checks.sentence("`0xBF800000` is class 1, answers 2", () -> exampleDue(0xBF800000, 1, 2));
+        Checks.sentence("`0x7F7FFFFF` is class 6, answers 64", () -> exampleDue(0x7F7FFFFF, 6, 64));
+        Checks.sentence("`0x7F800000` is class 7, answers 128", () -> exampleDue(0x7F800000, 7, 128));
+        Checks.sentence("`0xFF800000` is class 0, answers 1", () -> exampleDue(0xFF800000, 0, 1));
+        Checks.sentence("`0x7F800001` and `0xFF800001` are class 8, answer 256", () -> {
+            exampleDue(0x7F800001, 8, 256);
+            exampleDue(0xFF800001, 8, 256);
+        });
+        Checks.sentence("`0x7FC00000`, `0xFFC00000`, `0x7FFFFFFF` and `0xFFFFFFFF` are class 9, answer 512", () -> {
+            exampleDue(0x7FC00000, 9, 512);
+            exampleDue(0xFFC00000, 9, 512);
+            exampleDue(0x7FFFFFFF, 9, 512);
+            exampleDue(0xFFFFFFFF, 9, 512);
+        });
+    }
+
+    private static void exampleDue(int bits, int k, int answer) {
+        FpClassify census = new FpClassify();
+        Checks.due(call(bits), census.classify(bits), answer);
+        Checks.due("tally(" + k + ") after " + call(bits), census.tally(k), 1);
     }
 
     private static void classifyDoesNotThrow() {

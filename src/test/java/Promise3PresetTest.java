@@ -1,6 +1,7 @@
 /** Promise 3: preset stores the clamped value in one tally and answers it, or answers -1 and changes nothing. */
 public final class Promise3PresetTest {
     public static void main(String[] args) {
+        Checks.sentence("`int preset(int c, int v)` sets tally `c` directly.", Promise3PresetTest::eachTallyIsSet);
         Checks.sentence("If `c < 0` [..] answers -1 and changes nothing, whatever `v` is.",
             Promise3PresetTest::classBelowTheFirstIsRefused);
         Checks.sentence("If [..] `c > 9`: answers -1 and changes nothing, whatever `v` is.",
@@ -47,6 +48,16 @@ public final class Promise3PresetTest {
                 Checks.talliesDue("after " + call(c, v), census, state);
             }
             Checks.due("finite() after refused calls", census.finite(), sum);
+        }
+    }
+
+    private static void eachTallyIsSet() {
+        FpClassify census = new FpClassify();
+        int[] want = Checks.allAt(0);
+        for (int c = 0; c < Checks.CLASSES; c++) {
+            want[c] = 500 + c;
+            Checks.due(call(c, want[c]), census.preset(c, want[c]), want[c]);
+            Checks.talliesDue("after " + call(c, want[c]), census, want);
         }
     }
 

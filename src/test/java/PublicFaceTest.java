@@ -16,7 +16,8 @@ public final class PublicFaceTest {
     public static void main(String[] args) {
         Checks.sentence("public final class FpClassify", PublicFaceTest::theClassIsPublicFinalAndAlone);
         Checks.sentence("public FpClassify()", PublicFaceTest::theOnlyConstructorIsPublicAndEmpty);
-        Checks.sentence("public int classify, public int preset, public short tally, public int finite",
+        Checks.sentence("public int classify(int bits) public int preset(int c, int v) public short tally(int c) "
+            + "public int finite()",
             PublicFaceTest::theOtherMethodsArePrivate);
         Checks.sentence("The class has no public constants.", PublicFaceTest::fieldsArePrivateAndPlain);
         Checks.end();

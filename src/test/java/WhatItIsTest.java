@@ -4,6 +4,8 @@ public final class WhatItIsTest {
     private static final int CALLS = 2000;
 
     public static void main(String[] args) {
+        Checks.sentence("`FpClassify` is a census of IEEE binary32 bit patterns by the ten classes of RISC-V FCLASS.S.",
+            WhatItIsTest::itIsACensus);
         Checks.sentence("It keeps ten tallies, numbered 0 to 9.", WhatItIsTest::thereAreTenTallies);
         Checks.sentence("Each tally is always a value from 0 to 32767", WhatItIsTest::talliesAreAlwaysInRange);
         Checks.sentence("and all are 0 at first.", WhatItIsTest::allAreZeroAtFirst);
@@ -13,6 +15,39 @@ public final class WhatItIsTest {
             + "can be summed.", WhatItIsTest::mixedCallsAnswerAsTheModel);
         Checks.sentence("Nothing here ever throws, for any argument and in any state.", WhatItIsTest::nothingThrows);
         Checks.end();
+    }
+
+    /** Java's float is binary32 too: its own arithmetic says of each pattern what kind of number it is. */
+    private static void itIsACensus() {
+        FpClassify census = new FpClassify();
+        int[] want = Checks.allAt(0);
+        for (int step = 0; step < 100000; step++) {
+            int bits = step * 0x9E3779B1;
+            int k = classByFloat(bits);
+            want[k] = Math.min(want[k] + 1, Checks.GREATEST_TALLY);
+            Checks.due("classify(0x" + Integer.toHexString(bits) + ")", census.classify(bits), 1L << k);
+        }
+        Checks.talliesDue("100000 patterns classified", census, want);
+    }
+
+    /** Only the kind of a NaN is told by its bit, since no arithmetic tells it. */
+    private static int classByFloat(int bits) {
+        float value = Float.intBitsToFloat(bits);
+        if (Float.isNaN(value)) {
+            return (bits & 0x00400000) != 0 ? 9 : 8;
+        }
+        boolean negative = Math.copySign(1.0f, value) < 0;
+        float magnitude = Math.abs(value);
+        if (magnitude == Float.POSITIVE_INFINITY) {
+            return negative ? 0 : 7;
+        }
+        if (magnitude >= Float.MIN_NORMAL) {
+            return negative ? 1 : 6;
+        }
+        if (magnitude > 0) {
+            return negative ? 2 : 5;
+        }
+        return negative ? 3 : 4;
     }
 
     private static void thereAreTenTallies() {
